@@ -288,9 +288,10 @@ public final class BeanStreet {
     }
 
     public int sorts(int what) {
+        machine.prepare();
         switch (what) {
             case 0:
-                return machine.tally(now.swapCount, NONE);
+                return machine.sortedAll();
             case 1:
                 return machine.firstUnsorted();
             case 2:
@@ -303,7 +304,11 @@ public final class BeanStreet {
     }
 
     public int sorted(int house) {
-        return city.has(house) ? machine.result(house) : NONE;
+        if (!city.has(house)) {
+            return NONE;
+        }
+        machine.prepare();
+        return machine.result(house);
     }
 
     public int clue(int house, int steps) {
@@ -784,8 +789,8 @@ public final class BeanStreet {
         private int value = 0;
         private int parts = 0;
         private int fault = NONE;
-        /** A token makes one instruction at most, a clause two more. */
-        private final int[] code = new int[MOST_BYTES + 3 * MOST_CLAUSES];
+        /** A token makes one instruction at most, a clause one more. */
+        private final int[] code = new int[MOST_BYTES + MOST_CLAUSES];
         private int size = 0;
 
         int length() {
@@ -854,7 +859,6 @@ public final class BeanStreet {
             if (kind != TAKES && kind != LETS && kind != BARS) {
                 return wrong();
             }
-            int opening = emit(Judge.OPENS, 0);
             advance();
             if (kind == TAKES && !sum(0)) {
                 return false;
@@ -867,7 +871,6 @@ public final class BeanStreet {
             } else {
                 emit(Judge.NUMBER, 1);
             }
-            aim(opening);
             emit(kind == TAKES ? Judge.TAKES : kind == LETS ? Judge.LETS : Judge.BARS, 0);
             return true;
         }
@@ -1097,11 +1100,10 @@ public final class BeanStreet {
         private static final int NOT = 9;
         private static final int OR = 10;
         private static final int AND = 11;
-        /** A clause begins; it leads to the clause's last instruction. */
-        private static final int OPENS = 12;
-        private static final int TAKES = 13;
-        private static final int LETS = 14;
-        private static final int BARS = 15;
+        /** These end a clause. */
+        private static final int TAKES = 12;
+        private static final int LETS = 13;
+        private static final int BARS = 14;
 
         private static final int BOUND = 1000000000;
         private static final int MOST_TAKEN = 99;
@@ -1112,6 +1114,7 @@ public final class BeanStreet {
         private final int[] words = new int[WORDS];
         private final long[] stack = new long[MOST_STACK];
         private int height = 0;
+        /** Stays so to the clause's end: whatever else is asked there, the clause does not hold. */
         private boolean broken = false;
         private boolean hasLets = false;
         private boolean let = false;
@@ -1138,13 +1141,10 @@ public final class BeanStreet {
         /** What the exchange takes, 0 if it is not let; no law: code without a clause. */
         int verdict(int[] code) {
             begin();
-            int closing = 0;
             for (int at = 0; at < code.length; at++) {
                 int kind = code[at] & KIND_MASK;
                 int more = code[at] >> KIND_BITS;
-                if (kind == OPENS) {
-                    closing = more;
-                } else if (kind >= TAKES) {
+                if (kind >= TAKES) {
                     close(kind);
                 } else if (kind == OR || kind == AND) {
                     if ((top() != 0) == (kind == OR)) {
@@ -1154,9 +1154,6 @@ public final class BeanStreet {
                     }
                 } else {
                     run(kind, more);
-                }
-                if (broken) {
-                    at = Math.max(at, closing - 1);
                 }
             }
             boolean open = hasLets ? let : words[4] == 1;
@@ -1221,7 +1218,7 @@ public final class BeanStreet {
 
         private long bounded(long number) {
             broken = broken || number > BOUND || number < -BOUND;
-            return number;
+            return broken ? 0 : number;
         }
 
         private long top() {
@@ -1813,30 +1810,34 @@ public final class BeanStreet {
     private static final class Machine {
         private final State state;
         private final Houses city;
+        private final int[] leftShifts = new int[MOST_SWAPS];
+        private final int[] rightShifts = new int[MOST_SWAPS];
 
         Machine(State state, Houses city) {
             this.state = state;
             this.city = city;
         }
 
+        /** Must be called ahead of running: the places' shifts are the same for all houses. */
+        void prepare() {
+            for (int i = 0; i < state.swapCount; i++) {
+                leftShifts[i] = city.shiftOf(state.swapLefts[i]);
+                rightShifts[i] = city.shiftOf(state.swapRights[i]);
+            }
+        }
+
         int result(int house) {
             return city.find(run(city.rowOf(house), state.swapCount, NONE));
         }
 
-        /** How many houses its first swap-ifs sort, without the one that is left out. */
-        int tally(int first, int leftOut) {
-            int sorted = 0;
-            for (int house = 0; house < city.many(); house++) {
-                if (run(city.rowOf(house), first, leftOut) == city.rowOf(0)) {
-                    sorted++;
-                }
-            }
-            return sorted;
+        int sortedAll() {
+            return tally(state.swapCount, NONE);
         }
 
         int firstUnsorted() {
+            int home = city.rowOf(0);
             for (int house = 0; house < city.many(); house++) {
-                if (result(house) != 0) {
+                if (run(city.rowOf(house), state.swapCount, NONE) != home) {
                     return house;
                 }
             }
@@ -1844,7 +1845,7 @@ public final class BeanStreet {
         }
 
         int needless() {
-            int all = tally(state.swapCount, NONE);
+            int all = sortedAll();
             int bits = 0;
             for (int i = 0; i < state.swapCount; i++) {
                 if (tally(state.swapCount, i) >= all) {
@@ -1855,7 +1856,7 @@ public final class BeanStreet {
         }
 
         int fewestFirst() {
-            int all = tally(state.swapCount, NONE);
+            int all = sortedAll();
             int first = 0;
             while (first < state.swapCount && tally(first, NONE) < all) {
                 first++;
@@ -1863,11 +1864,23 @@ public final class BeanStreet {
             return first;
         }
 
+        /** How many houses its first swap-ifs sort, without the one that is left out. */
+        private int tally(int first, int leftOut) {
+            int home = city.rowOf(0);
+            int sorted = 0;
+            for (int house = 0; house < city.many(); house++) {
+                if (run(city.rowOf(house), first, leftOut) == home) {
+                    sorted++;
+                }
+            }
+            return sorted;
+        }
+
         private int run(int row, int first, int leftOut) {
             int at = row;
             for (int i = 0; i < first && i < state.swapCount; i++) {
-                int left = city.shiftOf(state.swapLefts[i]);
-                int right = city.shiftOf(state.swapRights[i]);
+                int left = leftShifts[i];
+                int right = rightShifts[i];
                 if (i != leftOut && Houses.colourAt(at, left) > Houses.colourAt(at, right)) {
                     at = Houses.exchanged(at, left, right);
                 }

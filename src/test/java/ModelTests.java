@@ -171,7 +171,11 @@ public final class ModelTests {
     }
 
     private String edgeText() {
-        switch (below(6)) {
+        switch (below(8)) {
+            case 5:
+                return "lets;takes 99;takes 40*apart+20*one+" + word() + ";bars if " + test(1);
+            case 6:
+                return "takes 30*one+25*left;takes 97 if " + test(1) + (below(2) == 0 ? ";lets if " + test(1) : "");
             case 0:
                 return "lets" + ";lets".repeat(10 + below(4)) + (below(2) == 0 ? ";" : "");
             case 1:
@@ -386,6 +390,33 @@ public final class ModelTests {
         return !wrong;
     }
 
+    /** A city of a drawn law and walls, every two houses. */
+    private boolean everyTwo() {
+        byte[] row = new byte[3 + below(2)];
+        for (int i = 0; i < row.length; i++) {
+            row[i] = (byte) (below(3) == 0 ? below(4) : i);
+        }
+        write(row);
+        call("row");
+        call("terms", 0, below(2));
+        for (int i = 0; i < 3; i++) {
+            write(lawText().getBytes(StandardCharsets.ISO_8859_1));
+            call("law");
+        }
+        call("force", model.count(6) - 1);
+        for (int i = below(9); i > 0; i--) {
+            aWall();
+        }
+        for (int from = 0; from < model.houses(); from++) {
+            call("reach", from, from % 4);
+            for (int to = 0; to < model.houses() && !wrong; to++) {
+                call("parted", from, to);
+                call("far", from, to, (from + to) % 3);
+            }
+        }
+        return !wrong;
+    }
+
     public static void main(String[] args) {
         int small = args.length > 0 ? Integer.parseInt(args[0]) : 1500;
         long seed = args.length > 1 ? Long.parseLong(args[1]) : 1;
@@ -395,6 +426,10 @@ public final class ModelTests {
             boolean good = kind < 15 ? test.run(120, 4, 1) : kind < 19 ? test.run(60, 5, 2) : test.run(40, 7, 8);
             if (!good) {
                 System.out.println("drawn run " + i + " of seed " + seed);
+                System.exit(1);
+            }
+            if (i % 10 == 0 && !new ModelTests(seed * 1000003L - i - 1).everyTwo()) {
+                System.out.println("every two houses, " + i + " of seed " + seed);
                 System.exit(1);
             }
         }

@@ -440,6 +440,20 @@ public final class PromiseTests {
         C.due("16 not there", x.far(0, 1, 0), NONE);
         C.due("16 in none", x.far(0, 1, 1), 0);
         C.due("16 no least", x.far(0, 1, 2), NONE);
+        x.force(NONE);
+        Check.law(x, "takes 99");
+        x.force(2);
+        C.due("16 dear steps", x.far(0, 23, 2), 6 * 99);
+        Check.law(x, "lets;takes 99;takes 60 if apart=1 and left=1");
+        x.force(3);
+        // 3210 by the ends and the middle.
+        C.due("16 dear and less dear", x.far(0, 23, 2), 159);
+        x = lawful("takes 99", 4, 3, 2, 1, 1, 0, 0);
+        C.due("16 nineteen dear steps", x.far(0, 1259, 2), 19 * 99);
+        x = lawful("lets if one<other and apart=1", 4, 3, 2, 1, 1, 0, 0);
+        x.terms(0, 1);
+        C.due("16 far by turns", x.far(128, 0, 0), 26);
+        C.due("16 a thousand million at most", x.far(128, 0, 1), 1000000000);
         x = Check.withRow(0, 1);
         x.terms(0, 1);
         C.due("16 each step counts", x.far(0, 1, 1), 2);
@@ -800,6 +814,18 @@ public final class PromiseTests {
         C.due("35 a law more", Check.law(x, "takes 9"), 1);
         x.force(1);
         C.due("35 another law of that number", x.step(3, 0, 1), 9);
+
+        x = Check.withRow(0, 1);
+        x.image(0);
+        Check.law(x, "takes 3");
+        x.force(0);
+        x.image(1);
+        x.back(0);
+        C.due("35 the first law again", Check.law(x, "takes 4"), 0);
+        x.force(0);
+        C.due("35 takes 4", x.step(0, 0, 1), 4);
+        x.back(1);
+        C.due("35 takes 3 again", x.step(0, 0, 1), 3);
     }
 
     private static void p36p37CountStatus() {
