@@ -44,7 +44,6 @@ public final class BeanStreet {
     private int status = 0;
     private int fault = NONE;
     private final int[] visits = new int[MOST_HOUSES];
-    private boolean drunkKnown = false;
 
     public BeanStreet() {
         city.settle(now.beans);
@@ -370,7 +369,6 @@ public final class BeanStreet {
         }
         streets.prepare();
         Arrays.fill(visits, 0);
-        drunkKnown = true;
         int s = seed;
         int at = house;
         visits[at]++;
@@ -386,7 +384,7 @@ public final class BeanStreet {
     }
 
     public int drawn(int house) {
-        return drunkKnown && city.has(house) ? visits[house] : NONE;
+        return city.has(house) ? visits[house] : NONE;
     }
 
     public int image(int k) {

@@ -723,7 +723,7 @@ public final class PromiseTests {
 
     private static void p32p33Drunk() {
         BeanStreet x = new BeanStreet();
-        C.due("33 no drunk yet", x.drawn(0), NONE);
+        C.due("33 no drunk yet", x.drawn(0), 0);
         Check.row(x, 0, 1, 2);
         // s: 5, 17860, 711713, ...: of two steps the first, the second.
         C.due("32 no step", x.drunk(5, 3, 0), 3);
@@ -758,6 +758,13 @@ public final class PromiseTests {
         x.drunk(7, 0, 1);
         x.back(0);
         C.due("33 images keep no drunk", x.drawn(1), 1);
+        x.beans(3, 1);
+        C.due("33 nor do other beans take him away", x.drawn(1), 1);
+        C.due("33 nor was he where there was no house", x.drawn(23), 0);
+        x.beans(3, 0);
+        x.beans(2, 0);
+        x.beans(1, 0);
+        C.due("33 there is no such house now", x.drawn(1), NONE);
     }
 
     private static void p34p35Images() {
