@@ -44,6 +44,7 @@ public final class BeanStreet {
     private int status = 0;
     private int fault = NONE;
     private final int[] visits = new int[MOST_HOUSES];
+    private boolean drunkKept = false;
 
     public BeanStreet() {
         city.settle(now.beans);
@@ -380,11 +381,12 @@ public final class BeanStreet {
             }
             visits[at]++;
         }
+        drunkKept = true;
         return accept(at);
     }
 
     public int drawn(int house) {
-        return city.has(house) ? visits[house] : NONE;
+        return drunkKept && city.has(house) ? visits[house] : NONE;
     }
 
     public int image(int k) {

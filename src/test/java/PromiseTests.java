@@ -723,8 +723,14 @@ public final class PromiseTests {
 
     private static void p32p33Drunk() {
         BeanStreet x = new BeanStreet();
-        C.due("33 no drunk yet", x.drawn(0), 0);
+        C.due("33 no drunk yet", x.drawn(0), NONE);
         Check.row(x, 0, 1, 2);
+        x.drunk(-1, 0, 1);
+        x.drunk(0, 6, 1);
+        C.due("33 a refused drunk is none", x.drawn(0), NONE);
+        x.image(1);
+        x.back(1);
+        C.due("33 nor does an image bring one", x.drawn(0), NONE);
         // s: 5, 17860, 711713, ...: of two steps the first, the second.
         C.due("32 no step", x.drunk(5, 3, 0), 3);
         C.due("33 at first", x.drawn(3), 1);

@@ -75,7 +75,7 @@ public final class StreetModel {
     private int fault = NONE;
     private int status = 0;
     private final Map<Integer, Integer> refused = new HashMap<>();
-    private Map<Integer, Integer> drunk = new HashMap<>();
+    private Map<Integer, Integer> drunk = null;
 
     private int no(int by) {
         status = by;
@@ -967,7 +967,7 @@ public final class StreetModel {
     }
 
     public int drawn(int house) {
-        return is(house) ? drunk.getOrDefault(house, 0) : NONE;
+        return drunk != null && is(house) ? drunk.getOrDefault(house, 0) : NONE;
     }
 
     public int image(int k) {
