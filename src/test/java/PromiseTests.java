@@ -540,6 +540,18 @@ public final class PromiseTests {
         C.due("20 not the other", x.parted(5, 0), 0);
         x = lawful("lets", 0, 1, 2, 3, 4, 0, 1);
         C.due("20 as many as steps", x.parted(0, 1259), 19);
+        p20Crossings();
+    }
+
+    /** Ways found first that stand in the way of others: they must be led about anew. */
+    private static void p20Crossings() {
+        C.due("20 given back", lawful("lets if one>other;bars if apart=other", 2, 3, 0, 0).parted(5, 0), 3);
+        C.due("20 by the last house", lawful("lets if apart>one", 1, 0, 1, 1, 3).parted(9, 17), 5);
+        C.due("20 given back once", lawful("lets if other<apart", 2, 1, 1, 3, 3).parted(10, 0), 2);
+        C.due("20 taken anew", lawful("lets if one=apart", 2, 2, 1, 0, 0).parted(28, 3), 3);
+        BeanStreet x = lawful("lets if first=right", 0, 1, 0, 3, 1);
+        x.terms(0, 1);
+        C.due("20 taken anew, with turns", x.parted(26, 24), 3);
     }
 
     private static void p21Rows() {
