@@ -4,13 +4,23 @@ import java.nio.charset.StandardCharsets;
 final class Check {
     private int wrong = 0;
     private int asked = 0;
+    private String about = "";
+
+    /** What the answers asked for from now on are of; told with each that is not due. */
+    void about(String what) {
+        about = what + ": ";
+    }
 
     void due(String call, long got, long want) {
         asked++;
         if (got != want) {
             wrong++;
-            System.out.println(call + " answered " + got + ", due is " + want);
+            System.out.println(about + call + " answered " + got + ", due is " + want);
         }
+    }
+
+    int asked() {
+        return asked;
     }
 
     void isTrue(String what, boolean so) {
@@ -64,6 +74,14 @@ final class Check {
     static BeanStreet withRow(int... colours) {
         BeanStreet x = new BeanStreet();
         row(x, colours);
+        return x;
+    }
+
+    /** A city of a row's beans with a law in force. */
+    static BeanStreet lawful(String law, int... colours) {
+        BeanStreet x = withRow(colours);
+        law(x, law);
+        x.force(0);
         return x;
     }
 }
