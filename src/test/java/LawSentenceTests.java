@@ -52,6 +52,7 @@ public final class LawSentenceTests {
         fault(c, "lets" + " ".repeat(396), NONE);
         fault(c, "takes" + " ".repeat(395), 400);
         fault(c, " ".repeat(396) + "bars", NONE);
+        fault(c, " ".repeat(397) + "let", 397);
         fault(c, " ".repeat(400), 400);
         fault(c, " ".repeat(399) + "x", 399);
         fault(c, "lets if " + "not ".repeat(97) + "  1=", 400);
@@ -72,6 +73,8 @@ public final class LawSentenceTests {
 
     private static void letters(Check c) {
         fault(c, "letsif 1=1", 0);
+        fault(c, "letsa", 0);
+        fault(c, "letsz", 0);
         fault(c, "let s", 0);
         fault(c, "lets ifa=1", 5);
         fault(c, "lets if1=1", NONE);
@@ -154,6 +157,8 @@ public final class LawSentenceTests {
         fault(c, "lets if 1=1 or", 14);
         fault(c, "lets if 1=1 or or 1=1", 15);
         fault(c, "lets if 1=1 or;lets", 14);
+        takes(c, "takes 8 if 1=1 or 1=2", 8);
+        takes(c, "takes 8 if 1=2 or 1=2", 1);
         test(c, "1=2 or 1=2 or 1=1", 1);
         test(c, "1=2 or 1=2 or 1=2", 0);
     }
@@ -258,6 +263,10 @@ public final class LawSentenceTests {
         fault(c, "takes [1]" + "+[1]".repeat(49), NONE);
         fault(c, "takes 1" + "+1".repeat(47) + " if 1=1;lets;bars", NONE);
         fault(c, "takes 1" + "+1".repeat(47) + " if 1=1;lets;bars if 1=1", 122);
+        BeanStreet x = new BeanStreet();
+        for (int i = 0; i < 6; i++) {
+            c.due("each text for itself " + i, Check.law(x, "takes 1" + "+1".repeat(i < 5 ? 49 : 30)), i);
+        }
         // They stand, and all count.
         takes(c, "takes 1" + "+1".repeat(49), 50);
     }
@@ -421,6 +430,8 @@ public final class LawSentenceTests {
         takes(c, "lets", 1);
         takes(c, "takes 9 if 1=2", 1);
         takes(c, "takes 9/0", 1);
+        steps(c, "takes 9 if left=0", 9, 1, 1);
+        steps(c, "takes 9 if left=1", 1, 9, 1);
         c.due("no law", Check.withRow(0, 1).step(0, 0, 1), 1);
     }
 

@@ -203,6 +203,36 @@ public final class PromiseSentenceTests {
         c.due("not refused", x.status() + x.count(11), 0);
     }
 
+    private static void firstBytesAlone(Check c) {
+        BeanStreet x = new BeanStreet();
+        x.feed(0x00010900, -1, -1, -1, -1);
+        x.end(2);
+        c.due("01", x.row(), 0);
+        c.due("two beans", x.count(0), 2);
+        Check.write(x, "letsif");
+        x.end(4);
+        c.due("lets", x.law(), 0);
+        Check.write(x, "takes 77 if 1=2");
+        x.end(7);
+        c.due("takes 7", x.law(), 1);
+        x.force(1);
+        c.due("no more than 7", x.step(0, 0, 1), 7);
+        Check.write(x, "lets");
+        x.end(3);
+        c.due("let", x.law(), -6);
+        c.due("at its first", x.fault(), 0);
+        Check.write(x, "takes 1");
+        x.end(6);
+        c.due("takes", x.law(), -6);
+        c.due("at the end", x.fault(), 6);
+        x.feed(0x6c657473, -1, -1, -1, -1);
+        x.end(4);
+        Check.write(x, ";bars");
+        c.due("what comes then comes behind them", x.law(), 2);
+        x.force(2);
+        c.due("barred", x.step(0, NONE, 0), 0);
+    }
+
     private static void rowEmpties(Check c) {
         BeanStreet x = new BeanStreet();
         c.due("its house", Check.row(x, 2, 0, 1), 4);
@@ -657,10 +687,13 @@ public final class PromiseSentenceTests {
             x.clue(i % 6, 1);
         }
         c.due("no status", x.status(), -5);
+        c.due("none fits", x.fits(NONE), 0);
+        c.due("no house to ask", x.ask(0), NONE);
         c.due("six", x.forget(), 6);
         c.due("that stays", x.status(), -5);
         c.due("none is left", x.count(8), 0);
         c.due("all fit", x.fits(NONE), 6);
+        c.due("two are left at worst", x.ask(1), 2);
         c.due("room again", x.clue(0, 1), 1);
     }
 
@@ -674,6 +707,12 @@ public final class PromiseSentenceTests {
         x.clue(0, 1);
         c.due("none", x.fits(NONE), 0);
         c.due("of the only house", new BeanStreet().fits(NONE), 1);
+        x = Check.withRow(4, 4, 3, 3, 2, 1, 0);
+        c.due("most", x.fits(NONE), 1260);
+        c.due("the last of most", x.fits(1259), 1259);
+        x.clue(0, 19);
+        c.due("the farthest of most", x.fits(0), 1259);
+        c.due("it alone", x.fits(NONE), 1);
     }
 
     private static void fitsNone(Check c) {
@@ -930,6 +969,7 @@ public final class PromiseSentenceTests {
                 PromiseSentenceTests::highestFirst);
         s.says("NONE, if there would be more than 400.", PromiseSentenceTests::feed400);
         s.of("Promise 8:");
+        s.says("The TAPE has its first n bytes alone: n.", PromiseSentenceTests::firstBytesAlone);
         s.says("NONE, if it has not so many, or n is below 0.", PromiseSentenceTests::endNone);
         s.of("Promise 9:");
         s.says("A ROW, the TAPE is empty then: its HOUSE.", PromiseSentenceTests::rowEmpties);

@@ -552,6 +552,9 @@ public final class PromiseTests {
         BeanStreet x = lawful("lets if first=right", 0, 1, 0, 3, 1);
         x.terms(0, 1);
         C.due("20 taken anew, with turns", x.parted(26, 24), 3);
+        x = lawful("lets if one=2", 3, 3, 2, 0, 0);
+        x.terms(0, 1);
+        C.due("20 given back, then taken further", x.parted(6, 27), 2);
     }
 
     private static void p21Rows() {

@@ -1,4 +1,5 @@
 import java.io.IOException;
+import java.util.Arrays;
 
 /** The document's Terms I, III, IV: a test for each sentence that names an edge. */
 public final class TermSentenceTests {
@@ -283,8 +284,11 @@ public final class TermSentenceTests {
 
     private static void manyRows(Check c) {
         // Rows of ten exchanges of neighbours that turn five beans about.
-        c.due("768", Check.withRow(0, 1, 2, 3, 4).far(0, 119, 1), 768);
-        BeanStreet x = Check.lawful("lets if one<other and apart=1", 4, 3, 2, 1, 1, 0, 0);
+        BeanStreet x = Check.withRow(0, 1, 2, 3, 4);
+        c.due("768", x.far(0, 119, 1), 768);
+        c.due("from there, too", x.far(119, 0, 1), 768);
+        c.due("from beside it", x.far(118, 119, 1), 1);
+        x = Check.lawful("lets if one<other and apart=1", 4, 3, 2, 1, 1, 0, 0);
         x.terms(0, 1);
         c.due("no more than that", x.far(128, 0, 1), 1000000000);
     }
@@ -295,6 +299,40 @@ public final class TermSentenceTests {
         c.due("three of 20", x.far(0, 5, 2), 60);
         x = Check.lawful("takes 99", 4, 4, 3, 3, 2, 1, 0);
         c.due("nineteen of 99", x.far(0, 1259, 2), 1881);
+        x = Check.lawful("lets;takes 40+one*one*11+left*17-other*13-apart*apart*3", 0, 1, 2, 3);
+        isLeast(c, x, 0);
+        x = Check.lawful("lets;takes 99-first*23-left*left*9;takes other*7-apart if one>other", 0, 1, 2, 3);
+        isLeast(c, x, 17);
+        x = Check.lawful("lets if one<other;takes 60-one*20+right*5;bars if left=1", 0, 1, 2, 3);
+        isLeast(c, x, 3);
+        // By these a house that waits is come to for less, ahead of, between, behind others that take as much.
+        x = Check.lawful("lets;takes 50+right*right*3-left*8-apart*one*2", 0, 1, 2, 3);
+        isLeast(c, x, 17);
+        x = Check.lawful("lets;takes 50+one*7-left*left*7-other*right*5", 0, 1, 2, 3);
+        isLeast(c, x, 4);
+    }
+
+    /** No step makes a least less, and all but the first house's are made by a step. */
+    private static void isLeast(Check c, BeanStreet x, int from) {
+        int all = x.houses();
+        int[] least = new int[all];
+        boolean[] made = new boolean[all];
+        for (int house = 0; house < all; house++) {
+            least[house] = x.far(from, house, 2);
+        }
+        made[from] = least[from] == 0;
+        for (int house = 0; house < all; house++) {
+            int many = least[house] == NONE ? 0 : x.step(house, NONE, 0);
+            for (int i = 0; i < many; i++) {
+                int to = x.step(house, i, 0);
+                int taken = least[house] + x.step(house, i, 1);
+                c.isTrue("least of " + to, least[to] != NONE && least[to] <= taken);
+                made[to] = made[to] || least[to] == taken;
+            }
+        }
+        for (int house = 0; house < all; house++) {
+            c.isTrue("a step makes up the least of " + house, made[house] || least[house] == NONE);
+        }
     }
 
     private static void firstWay(Check c) {
@@ -304,6 +342,14 @@ public final class TermSentenceTests {
         for (int i = 0; i < 4; i++) {
             c.due("there " + i, x.way(0, 5, i), there[i]);
             c.due("back " + i, x.way(5, 0, i), back[i]);
+        }
+        x = Check.withRow(4, 4, 3, 3, 2, 1, 0);
+        c.due("from the last", x.way(1259, 0, 0), 1259);
+        c.due("its end", x.way(1259, 0, 19), 0);
+        for (int i = 0; i < 19; i++) {
+            int at = x.way(0, 1259, i);
+            c.due("a step each " + i, x.far(at, x.way(0, 1259, i + 1), 0), 1);
+            c.due("one nearer each " + i, x.far(at, 1259, 0), 19 - i);
         }
     }
 
@@ -359,6 +405,41 @@ public final class TermSentenceTests {
         c.due("one", x.parted(0, 1), 1);
         x.wall(0, 1);
         c.due("none more", x.parted(0, 1), 0);
+        isFewest(c, Check.lawful("lets if 2<right", 2, 1, 1, 0));
+        isFewest(c, Check.lawful("lets if apart<3", 1, 0, 3, 3));
+        isFewest(c, Check.lawful("lets if one>other;bars if apart=other", 2, 3, 0, 0));
+        isFewest(c, Check.withRow(0, 1, 2));
+    }
+
+    /** Walls around some houses part what is there from what is not: the fewest of all such, by trying each. */
+    private static void isFewest(Check c, BeanStreet x) {
+        x.terms(0, 1);
+        int all = x.houses();
+        int[] nexts = new int[all];
+        for (int house = 0; house < all; house++) {
+            for (int i = x.step(house, NONE, 0) - 1; i >= 0; i--) {
+                nexts[house] |= 1 << x.step(house, i, 0);
+            }
+        }
+        int[][] fewest = new int[all][all];
+        for (int set = 1; set < (1 << all) - 1; set++) {
+            int walls = 0;
+            for (int house = 0; house < all; house++) {
+                walls += (set >> house & 1) == 0 ? 0 : Integer.bitCount(nexts[house] & ~set);
+            }
+            for (int pair = 0; pair < all * all; pair++) {
+                int from = pair / all;
+                int to = pair % all;
+                boolean parts = (set >> from & 1) != 0 && (set >> to & 1) == 0;
+                fewest[from][to] = parts ? Math.max(fewest[from][to], 99 - walls) : fewest[from][to];
+            }
+        }
+        for (int pair = 0; pair < all * all; pair++) {
+            int from = pair / all;
+            int to = pair % all;
+            int due = from == to ? NONE : 99 - fewest[from][to];
+            c.due("parted(" + from + ", " + to + ")", x.parted(from, to), due);
+        }
     }
 
     private static void zeroToTwelve(Check c) {
@@ -369,6 +450,8 @@ public final class TermSentenceTests {
         c.due("twelve", x.rows(3, NONE, 12), 4096);
         c.due("thirteen", x.rows(3, NONE, 13), NONE);
         c.due("below", x.rows(3, NONE, -1), NONE);
+        c.due("from another house", x.rows(4, NONE, 12), 4096);
+        c.due("to where none ended", x.rows(4, 0, 3), 0);
         c.due("far beyond", x.rows(3, 3, HIGH), NONE);
         c.due("far below", x.rows(3, 3, LOW), NONE);
     }
@@ -404,6 +487,10 @@ public final class TermSentenceTests {
         x.terms(0, 1);
         c.due("beans alike", x.round(NONE), 0);
         c.due("none of it", x.round(0), NONE);
+        x = Check.withRow(0, 1);
+        c.due("two: one", x.round(NONE), 1);
+        x.beans(0, 0);
+        c.due("then one alone: none", x.round(NONE), 0);
     }
 
     private static void firstRound(Check c) {
@@ -508,6 +595,45 @@ public final class TermSentenceTests {
         x = new BeanStreet();
         c.due("one house", x.ask(0), 0);
         c.due("one is left", x.ask(1), 1);
+        x = Check.lawful("bars", 4, 4, 3, 3, 2, 1, 0);
+        c.due("each of most houses tells of itself alone", x.ask(0), 0);
+        c.due("all others are left", x.ask(1), 1259);
+        Move[] moves = {y -> Check.row(y, 0, 0, 1, 2), y -> y.wall(0, 1), y -> y.wall(0, 2), y -> y.clue(5, 2),
+            y -> y.forget(), y -> Check.law(y, "lets if one<other and apart<3"), y -> y.force(0), y -> y.clue(2, NONE),
+            y -> y.terms(0, 1), y -> y.clue(11, 3), y -> y.breach(0, 2), y -> y.forget(), y -> y.clue(3, 3)};
+        BeanStreet asked = new BeanStreet();
+        for (int i = 0; i < moves.length; i++) {
+            moves[i].make(asked);
+            isBest(c, asked, Arrays.copyOf(moves, i + 1));
+        }
+    }
+
+    /** A call that changes a street. */
+    private interface Move {
+        int make(BeanStreet x);
+    }
+
+    /** What is asked for is told by far() of streets to which the same moves led. */
+    private static void isBest(Check c, BeanStreet asked, Move[] moves) {
+        int best = NONE;
+        int worst = HIGH;
+        for (int house = 0; house < asked.houses(); house++) {
+            BeanStreet x = new BeanStreet();
+            for (Move move : moves) {
+                move.make(x);
+            }
+            int[] alike = new int[41];
+            for (int i = 0; i < x.fits(NONE); i++) {
+                alike[x.far(house, x.fits(i), 0) + 1]++;
+            }
+            int most = Arrays.stream(alike).max().orElse(0);
+            if (most > 0 && most < worst) {
+                worst = most;
+                best = house;
+            }
+        }
+        c.due("best behind " + moves.length + " moves", asked.ask(0), best);
+        c.due("left behind " + moves.length + " moves", asked.ask(1), best == NONE ? NONE : worst);
     }
 
     private static void postmenSteps(Check c) {
@@ -615,6 +741,37 @@ public final class TermSentenceTests {
         c.due("day", x.count(18), 0);
         c.due("steps", x.step(0, NONE, 0), 3);
         c.due("first", x.step(0, 0, 0), 2);
+        othersThanKept(c);
+    }
+
+    /** As many walls, clues, swap-ifs as were kept, but others. */
+    private static void othersThanKept(Check c) {
+        BeanStreet x = Check.withRow(0, 1, 2);
+        x.wall(0, 1);
+        x.clue(0, 1);
+        x.swapIf(0, 1);
+        x.image(1);
+        x.breach(0, 1);
+        x.wall(3, 5);
+        x.forget();
+        x.clue(4, 2);
+        x.keep(0);
+        x.swapIf(1, 2);
+        x.image(0);
+        x.back(1);
+        c.due("that wall", x.far(0, 1, 0), 5);
+        c.due("not this one", x.far(3, 5, 0), 1);
+        c.due("that clue: 102 alone", x.fits(0), 2);
+        c.due("one fits", x.fits(NONE), 1);
+        c.due("that swap-if", x.sorted(2), 0);
+        c.due("not this one either", x.sorted(1), 1);
+        x.back(0);
+        c.due("this wall", x.far(3, 5, 0), 5);
+        c.due("not that one", x.far(0, 1, 0), 1);
+        c.due("this clue: 012 alone, as 120 is past the wall", x.fits(0), 0);
+        c.due("one fits now, too", x.fits(NONE), 1);
+        c.due("this swap-if", x.sorted(1), 0);
+        c.due("not that one either", x.sorted(2), 2);
     }
 
     private static void notKeptByImages(Check c) {
