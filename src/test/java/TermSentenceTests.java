@@ -204,6 +204,40 @@ public final class TermSentenceTests {
         c.due("back: -2", x.back(1), -2);
     }
 
+    /** All that a street tells of itself but its tape and what was refused. */
+    private static int[] told(BeanStreet x) {
+        int[] told = new int[32];
+        for (int what = 0; what < 10; what++) {
+            told[what] = x.count(what);
+            told[10 + what] = x.sorted(2 * what + 1);
+        }
+        int[] more = {x.count(16), x.count(17), x.count(18), x.fault(), x.drawn(0), x.drawn(23), x.fits(NONE),
+            x.fits(0), x.far(0, 23, 0), x.far(23, 0, 1), x.far(0, 23, 2), x.step(0, NONE, 0)};
+        System.arraycopy(more, 0, told, 20, more.length);
+        return told;
+    }
+
+    private static void refusedChangesNothing(Check c) {
+        Move[] refused = {x -> x.beans(0, 5), x -> x.beans(5, 0), x -> x.terms(0, 2), x -> x.terms(1, 100), x -> x.row(),
+            x -> Check.row(x, 0, 7), x -> x.law(), x -> x.force(6), x -> x.wall(0, 24), x -> x.wall(0, 0),
+            x -> x.wall(0, 9), x -> x.breach(0, 24), x -> x.breach(1, 2), x -> x.swapIf(0, 4), x -> x.swapIf(0, 1),
+            x -> x.keep(13), x -> x.clue(0, -2), x -> x.clue(24, 0), x -> x.clue(0, 0), x -> x.drunk(0, 0, 501),
+            x -> x.drunk(0, 24, 1), x -> x.image(2), x -> x.back(2), x -> x.back(1)};
+        for (int i = 0; i < refused.length; i++) {
+            BeanStreet x = full();
+            x.force(3);
+            x.terms(0, 1);
+            x.terms(1, 5);
+            x.drunk(5, 9, 90);
+            x.image(0);
+            int[] before = told(x);
+            c.isTrue("call " + i + " is refused", refused[i].make(x) < 0);
+            c.isTrue("call " + i + " changes nothing", Arrays.equals(before, told(x)));
+            x.back(0);
+            c.isTrue("nor image 0 by call " + i, Arrays.equals(before, told(x)));
+        }
+    }
+
     private static void alike(Check c) {
         BeanStreet x = Check.lawful("lets", 0, 0, 1, 1);
         c.due("four of six exchanges", x.step(0, NONE, 0), 4);
@@ -832,6 +866,7 @@ public final class TermSentenceTests {
         s.says("-5 no room", TermSentenceTests::noRoom);
         s.says("-6 a TEXT, a ROW that can't be", TermSentenceTests::textOrRow);
         s.says("The first of these in that order.", TermSentenceTests::firstInOrder);
+        s.says("REFUSED by:", TermSentenceTests::refusedChangesNothing);
     }
 
     private static void sayTermsIII(Sentences s) {
