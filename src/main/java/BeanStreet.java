@@ -912,17 +912,9 @@ public final class BeanStreet {
                 advance();
             }
             if (isSign('(')) {
-                if (depth >= MOST_BRACKETS) {
-                    return wrong();
-                }
-                advance();
-                if (!test(depth + 1)) {
+                if (!bracketedTest(depth)) {
                     return false;
                 }
-                if (!isSign(')')) {
-                    return wrong();
-                }
-                advance();
             } else {
                 if (!sum(depth)) {
                     return false;
@@ -940,6 +932,21 @@ public final class BeanStreet {
             if (denied) {
                 emit(Judge.NOT, 0);
             }
+            return true;
+        }
+
+        private boolean bracketedTest(int depth) {
+            if (depth >= MOST_BRACKETS) {
+                return wrong();
+            }
+            advance();
+            if (!test(depth + 1)) {
+                return false;
+            }
+            if (!isSign(')')) {
+                return wrong();
+            }
+            advance();
             return true;
         }
 
@@ -975,18 +982,7 @@ public final class BeanStreet {
 
         private boolean part(int depth) {
             if (isSign('[')) {
-                if (depth >= MOST_BRACKETS) {
-                    return wrong();
-                }
-                advance();
-                if (!sum(depth + 1)) {
-                    return false;
-                }
-                if (!isSign(']')) {
-                    return wrong();
-                }
-                advance();
-                return true;
+                return bracketedSum(depth);
             }
             boolean number = token == DIGITS && value <= MOST_NUMBER;
             boolean word = token >= FIRST_PART && token <= LAST_PART;
@@ -998,6 +994,21 @@ public final class BeanStreet {
                 emit(Judge.NUMBER, value);
             } else {
                 emit(Judge.WORD, token - FIRST_PART);
+            }
+            advance();
+            return true;
+        }
+
+        private boolean bracketedSum(int depth) {
+            if (depth >= MOST_BRACKETS) {
+                return wrong();
+            }
+            advance();
+            if (!sum(depth + 1)) {
+                return false;
+            }
+            if (!isSign(']')) {
+                return wrong();
             }
             advance();
             return true;
