@@ -5,10 +5,10 @@ import java.util.Random;
 
 /**
  * Where a law's text can't go on, told token by token by what may stand next alone (and not by a reader that
- * calls itself): every text of up to nine tokens, and longer ones that are drawn.
+ * calls itself): rows of up to nine tokens of which there is one of each kind, and longer texts that are drawn.
  */
 public final class FaultTests {
-    /** Of these every row of up to nine is tried: one of each kind. */
+    /** One of each kind: rows of up to nine of these are tried, all that differ up to their fault. */
     private static final String[] FEW = {"takes", "lets", "if", "or", "not", "one", "12", ";", "(", ")", "[", "]", "=", "-"};
     private static final String[] ALL = {"takes", "lets", "bars", "if", "or", "and", "not", "left", "right", "one", "other",
         "apart", "first", "beans", "day", "0", "7", "1000", "01000", "1001", "99999999", "dew", "le", "Lets", ";", "(", ")",
